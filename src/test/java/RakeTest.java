@@ -145,6 +145,7 @@ public final class RakeTest {
         Check.due("loadOn(4, 0)", x.loadOn(4, 0), UNKNOWN);
         Check.due("loadOn(-1, 0)", x.loadOn(-1, 0), UNKNOWN);
         Check.due("no rake before no place", x.loadOn(0, -1), -201);
+        Check.told(x, "loadOn without a rake", 1, 0, 0);
         x.rake(0, 0, 3);
         x.lay(0, 0);
         Check.due("loadOn(0, 1)", x.loadOn(0, 1), 11);

@@ -16,11 +16,13 @@ public final class TableTest {
         Check.due("table(0, 2, 3)", x.table(0, 2, 3), 1);
         Check.told(x, "table(0, 2, 3)", 0, 0, 0);
         x.add(0, 1, 2, 5);
+        x.add(0, 0, 0, 6);
         Check.due("table(0, -1, 3)", x.table(0, -1, 3), -202);
         Check.told(x, "table(0, -1, 3)", 2, 0, 0);
         Check.due("it is as it was", x.add(0, 1, 2, 0), 5);
         Check.due("table(0, 2, 3) anew", x.table(0, 2, 3), 1);
         Check.due("all 0", x.add(0, 1, 2, 0), 0);
+        Check.due("all 0", x.add(0, 0, 0, 0), 0);
         Check.due("table(0, 0, 0)", x.table(0, 0, 0), 1);
         Check.due("no rows", x.add(0, 0, 0, 1), -203);
         Check.due("table(0, 3, 0)", x.table(0, 3, 0), 1);
