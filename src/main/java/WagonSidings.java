@@ -256,7 +256,7 @@ public final class WagonSidings {
         if (r == null || t == null) {
             return UNKNOWN;
         }
-        if (!r.made) {
+        if (!r.made || t.first == null) {
             return fail(NOT_THERE, 0);
         }
         int laid = 0;

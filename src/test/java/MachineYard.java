@@ -1,5 +1,6 @@
 import java.util.ArrayList;
 import java.util.List;
+import java.util.Objects;
 
 /**
  * The document once more, on another footing: real classes for the kinds, and the Java machine's own
@@ -252,7 +253,7 @@ final class MachineYard {
             case "rake":
                 rakes[a[0]] = newRow(a[1], a[2]);
                 return 1;
-            case "lay": return layAll(rakes[a[0]], chain(first[a[1]]));
+            case "lay": return layAll(rakes[a[0]], first[a[1]]);
             case "places": return rakes[a[0]].length;
             case "loadOn": return rakes[a[0]][a[1]].load;
             case "table":
@@ -283,12 +284,12 @@ final class MachineYard {
         }
     }
 
-    private int layAll(Wagon[] row, List<Wagon> all) {
-        if (row.length >= 0) {
-            for (Wagon w : all) {
-                row[laid] = w;
-                laid++;
-            }
+    private int layAll(Wagon[] row, Wagon from) {
+        Objects.requireNonNull(row);
+        Objects.requireNonNull(from);
+        for (Wagon w : chain(from)) {
+            row[laid] = w;
+            laid++;
         }
         return laid;
     }

@@ -9,6 +9,7 @@ public final class RakeTest {
         drop();
         lay();
         layFails();
+        layWithoutWagon();
         layTakesKinds();
         places();
         loadOn();
@@ -79,8 +80,6 @@ public final class RakeTest {
         Check.told(x, "lay(0, 1)", 0, 1, 0);
         Check.due("onRake(0, 0)", x.onRake(0, 0), 3);
         Check.due("onRake(0, 1)", x.onRake(0, 1), 1);
-        Check.due("lay of a track without wagons", x.lay(0, 2), 0);
-        Check.told(x, "lay(0, 2)", 0, 0, 0);
         Check.due("lay stays on the track", x.wagonAt(0, 2), 2);
     }
 
@@ -107,7 +106,31 @@ public final class RakeTest {
         x.rake(2, 0, 0);
         Check.due("no places", x.lay(2, 0), -203);
         Check.told(x, "lay on no places", 3, 0, 0);
-        Check.due("no places, no wagon", x.lay(2, 1), 0);
+    }
+
+    private static void layWithoutWagon() {
+        for (int places = 0; places <= 12; places++) {
+            for (int kind = 0; kind < 5; kind++) {
+                WagonSidings x = new WagonSidings();
+                x.rake(0, kind, places);
+                Check.due("no wagon, rake(0, " + kind + ", " + places + ")", x.lay(0, 5), -201);
+                Check.told(x, "lay without a wagon", 1, 0, 0);
+            }
+        }
+        WagonSidings x = new WagonSidings();
+        Check.train(x, 0, 0, 1);
+        x.rake(0, 0, 3);
+        x.lay(0, 0);
+        Check.due("no wagon on another track", x.lay(0, 1), -201);
+        Check.told(x, "lay(0, 1)", 1, 0, 0);
+        Check.due("what lies there stays", x.onRake(0, 0), 0);
+        Check.due("what lies there stays", x.onRake(0, 1), 1);
+        x.stand(0, NONE);
+        Check.due("no wagon any more", x.lay(0, 0), -201);
+        Check.due("what lies there stays", x.loadOn(0, 1), 11);
+        x.stand(1, 0);
+        Check.due("the wagon on the other track", x.lay(0, 1), 2);
+        Check.due("no track before no wagon", x.lay(0, 6), UNKNOWN);
     }
 
     private static void layTakesKinds() {
