@@ -1,3 +1,5 @@
+import java.util.Set;
+
 /** Counts and prints the answers that are not the ones due. */
 final class Check {
     private static int wrong;
@@ -8,6 +10,13 @@ final class Check {
         if (got != want) {
             wrong++;
             System.out.println(call + " answered " + got + ", due is " + want);
+        }
+    }
+
+    static void same(String what, Set<String> got, Set<String> want) {
+        if (!got.equals(want)) {
+            wrong++;
+            System.out.println(what + ": " + got + ", due is " + want);
         }
     }
 
