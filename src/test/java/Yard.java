@@ -97,14 +97,27 @@ final class Yard {
         }
     }
 
-    /** With no track taken any more, only those that have one ahead may not stand on one. */
+    /** Takes all TRACKS' WAGONS away: then only those that have one ahead may not stand on one. */
     private void lookForOnesAhead(Map<String, Integer> seen, int wagons) {
         for (int track = 0; track < 6; track++) {
-            ask("stand(" + track + ", NONE)");
+            String call = "stand(" + track + ", NONE)";
+            Check.due(call + " and about(..., 3)", ask(call), wagonThatHas(seen, wagons, 3, track));
         }
         for (int w = 0; w < wagons; w++) {
-            seen.put(w + " has one ahead", ask("stand(0, " + w + ")") == WagonSidings.STATE ? 1 : 0);
+            int ahead = ask("stand(0, " + w + ")") == WagonSidings.STATE ? 1 : 0;
+            boolean isBehindOne = wagonThatHas(seen, wagons, 2, w) != WagonSidings.NONE;
+            Check.due(w + " has one ahead and about(..., 2)", ahead, isBehindOne ? 1 : 0);
+            seen.put(w + " has one ahead", ahead);
         }
+    }
+
+    private static int wagonThatHas(Map<String, Integer> seen, int wagons, int what, int value) {
+        for (int w = 0; w < wagons; w++) {
+            if (seen.get("about(" + w + ", " + what + ")") == value) {
+                return w;
+            }
+        }
+        return WagonSidings.NONE;
     }
 
     private void lookAtRakeKinds(Map<String, Integer> seen) {
