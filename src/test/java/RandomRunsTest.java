@@ -14,7 +14,7 @@ public final class RandomRunsTest {
     private static final String[] RARE = {"cut", "rake", "drop", "table"};
 
     private static final int[] EDGES = {
-        -1, -2, 4, 5, 6, 7, 12, 13, 39, 40, 41, 42, Integer.MAX_VALUE, Integer.MIN_VALUE, 1 << 30};
+        -1, -2, 2, 3, 4, 5, 6, 7, 12, 13, 39, 40, 41, 42, Integer.MAX_VALUE, Integer.MIN_VALUE, 1 << 30};
 
     private final String run;
     private final WagonSidings x = new WagonSidings();
